@@ -524,7 +524,6 @@ public final class HawkAsks {
 
         boolean readAll() {
             at = 0;
-            fault = 0;
             draft.clear();
             return readLaw() && readAnswers() && readHawks();
         }
@@ -673,14 +672,10 @@ public final class HawkAsks {
         /** Worth of all that hawks of even numbers took, less that of odd ones. */
         int lead;
 
+        // Enough for a draft: no hawk of it is ever let go and no hour passes in it.
         void clear() {
-            ridges = 0;
-            longest = 0;
-            hour = 0;
             hawks = 0;
             answers = 0;
-            knownBits = 0;
-            lead = 0;
         }
 
         void addAnswer(int ridge, int worth, int drift) {
@@ -694,7 +689,6 @@ public final class HawkAsks {
             kinds[hawks] = kind;
             hungers[hawks] = hunger;
             hawks++;
-            callBack(hawks - 1);
         }
 
         void takeFrom(Castle other) {

@@ -321,6 +321,11 @@ public final class DoneTest {
         due.is("lost", x.hawk(0, 2), 2);
         due.is("lost, as all are now", x.hawk(0, 4), 0);
         due.is("lost it takes none", x.hawk(0, 5), NONE);
+        HawkAsks y = Due.told("c2,9;q0,1,0;k1;p0;");
+        y.fly(0);
+        y.fly(1);
+        due.is("hunger 1 would take worth 1", y.hawk(0, 5), 0);
+        due.is("a peregrine without hunger takes none", y.hawk(1, 5), NONE);
         due.is("answer(2,0)", x.answer(2, 0), BAD);
         due.is("answer(-1,0)", x.answer(-1, 0), BAD);
         due.is("answer(0,4)", x.answer(0, 4), BAD);

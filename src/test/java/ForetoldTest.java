@@ -84,6 +84,20 @@ public final class ForetoldTest {
         due.is("lost(0) then", x.lost(0), 4);
         x.hours(4);
         due.is("lost(0) now", x.lost(0), 0);
+        // Hunger 9 is there behind 27 hours; the answer is on ridge 0 behind 30, and so it is just not lost.
+        x = Due.told("c3,30;q2,9,2;k0;");
+        x.fly(0);
+        due.is("known(0): 30", x.known(0), 30);
+        due.is("lost(0): 60", x.lost(0), 60);
+        // The 5 behind 16 hours, the 7 on ridge 0 in odd hours behind 38, then the other 7.
+        x = Due.told("c3,30;q0,5,2;q2,7,2;q0,7,1;k0;");
+        due.is("waits(0,2,1): 60", x.waits(0, 2, 1), 60);
+        x.fly(0);
+        due.is("known(0)", x.known(0), 16);
+        due.is("known(1)", x.known(1), 38);
+        due.is("known(2): 60", x.known(2), 60);
+        due.is("later(2,59)", x.later(2, 59), 1);
+        due.is("later(2,60)", x.later(2, 60), NONE);
     }
 
     private static void firstOfAll() {
@@ -149,6 +163,9 @@ public final class ForetoldTest {
         due.is("waits(0,0,0): 18", x.waits(0, 0, 0), 18);
         due.is("waits(0,0,1): 19", x.waits(0, 0, 1), 19);
         due.is("waits(0,1,0): 21 is too long", x.waits(0, 1, 0), NONE);
+        x.hours(1);
+        due.is("waits(0,1,0): 20", x.waits(0, 1, 0), 20);
+        due.is("waits(0,1,1): 21", x.waits(0, 1, 1), 21);
         // Whenever it is let go, the kestrel has the other one first, and must be hungry again.
         x = Due.told("c2,9;q0,1,0;q1,1,2;k1;m1;");
         due.is("waits(0,1,0)", x.waits(0, 1, 0), 0);
@@ -244,7 +261,15 @@ public final class ForetoldTest {
         due.is("of another on the wrist", x.who(0, 0, 1, 2, 0, 2), 62);
         Due.bell(x, 4, 1, 2, 2, 2);
         due.is("lost: as where it was", x.who(0, 0, 0, 4, 0, 4), 1 << 1 | 1 << 4);
-        x.hours(2);
+        HawkAsks y = Due.told("c9,9;q5,9,1;m1;");
+        y.fly(0);
+        y.hours(4);
+        Due.bell(y, 0, 3, 2);
+        due.is("a blind one, down from ridge 4", y.who(0, 0, 0, 0, 0, 2), 1 << 5);
+        x.hours(1);
+        Due.bell(x, 6, 0, 0, 0);
+        due.is("a blind one, down from ridge 1 to 0, and lost", x.who(0, 0, 0, 6, 0, 3), 1 << 5);
+        x.hours(1);
         due.is("who(0,..) that is lost", x.who(0, 0, 1, 2, 0, 2), STATE);
         Due.bell(x, 5, 2, 2, 2);
         due.is("by the bell of a lost one", x.who(1, 0, 0, 5, 0, 3), 62);
@@ -256,6 +281,9 @@ public final class ForetoldTest {
         Due.bell(x, 0, 1, 2, 3);
         due.is("drifts", x.what(0, 0, 0, 0, 0, 3), 1 << 1);
         due.is("places: it stays on 3 or 4", x.what(0, 1, 0, 0, 0, 3), 1 << 3 | 1 << 4);
+        Due.bell(x, 2, 1, 0);
+        due.is("drifts: down, it is met on ridge 1 and goes on", x.what(0, 0, 0, 2, 0, 2), 1 << 2);
+        due.is("drifts: all, for an hour", x.what(0, 0, 0, 2, 0, 1), 7);
         Due.bell(x, 1, 0);
         due.is("places: on 0", x.what(0, 1, 0, 1, 0, 1), 1);
         due.is("drifts: none", x.what(0, 0, 0, 1, 0, 1), 0);
@@ -345,6 +373,7 @@ public final class ForetoldTest {
         x.fly(0);
         x.starve(0, 0);
         due.is("called back, by 5", x.drawn(1, 10, 1), 0);
+        due.is("one hawk alone", Due.told("c2,9;q0,1,0;k1;").drawn(1, 2, 0), 1);
         x = Due.told("c2,1;q0,9,0;k1;k3;");
         x.fly(0);
         due.is("called back ahead of the hour: not lost", x.drawn(1, 10, 1), 0);

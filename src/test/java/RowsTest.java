@@ -31,20 +31,13 @@ public final class RowsTest {
         due.is("a finding leaves the row", x.row(7, 0, -2), SIZE);
         due.is("drop(7)", x.drop(7), 40);
         x.row(3, 2, 2);
+        x.set(3, 0, 77);
         x.set(3, 1, 77);
+        Due.tell(x, "c2,1;q1,1,0;k1;");
+        x.castle();
+        due.is("a row that is no bell of the wrist", x.who(0, 0, 0, 3, 0, 2), 0);
         due.is("row(3,0,2) again", x.row(3, 0, 2), 2);
-        x.row(4, 0, 2);
-        x.set(4, 0, 9);
-        due.is("items are 0 at first", itemByBell(x, 3, 1, 0), 1);
-    }
-
-    /** Whether an item has a value, heard by a hawk that stays on the wrist: 1, 0. */
-    private static int itemByBell(HawkAsks x, int row, int i, int value) {
-        if (x.count(1) == 0) {
-            Due.tell(x, "c2,1;q1,1,0;k1;");
-            x.castle();
-        }
-        return value == 0 && x.who(0, 0, 0, row, i, 1) == 62 ? 1 : 0;
+        due.is("items are 0 at first, as the bell of the wrist", x.who(0, 0, 0, 3, 0, 2), 62);
     }
 
     private static void setting() {

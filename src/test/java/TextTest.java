@@ -11,6 +11,7 @@ public final class TextTest {
         faultsOfNumbers();
         faultsOfRoom();
         faultsLeaveAll();
+        textsBehindTexts();
         due.end();
     }
 
@@ -163,5 +164,24 @@ public final class TextTest {
         due.is("undo()", x.undo(), HawkAsks.STATE);
         x.castle();
         due.is("fault() of an empty tape", x.fault(), 1);
+    }
+
+    private static void textsBehindTexts() {
+        HawkAsks x = Due.told("c9,9;q7,9,2;q6,8,1;m1;m2;m3;");
+        Due.tell(x, "c3,4;q2,5,1;k6;");
+        due.is("castle() in place of another", x.castle(), 1);
+        due.is("its answers", x.count(2), 1);
+        due.is("its ridges", x.stand(4), 3);
+        due.is("its answer", x.answer(0, 0) * 100 + x.answer(0, 1) * 10 + x.answer(0, 2), 251);
+        due.is("its kind", x.kind(0), 3);
+        Due.tell(x, "c3,4;q2,5,1;k6");
+        due.is("the tape ahead is forgotten", x.castle(), -1000114);
+        x.fly(0);
+        x.hours(2);
+        Due.tell(x, "c3,4;q2,5,1;t6;k7;");
+        due.is("castle() behind hours", x.castle(), 2);
+        due.is("HOUR", x.count(3), 0);
+        due.is("on the WRIST", x.hawk(0, 2) * 100 + x.hawk(0, 1) * 10 + x.hawk(0, 3), 0);
+        due.is("its answer", x.answer(0, 0) * 100 + x.answer(0, 1) * 10 + x.answer(0, 2), 251);
     }
 }
