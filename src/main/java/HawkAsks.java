@@ -758,18 +758,11 @@ public final class HawkAsks {
             perch(h, WRIST);
         }
 
-        void letGoAll(int bits) {
+        /** Lets go, or calls back, all hawks of a set. */
+        void perchAll(int bits, int manner) {
             for (int h = 0; h < hawks; h++) {
                 if ((bits >> h & 1) == 1) {
-                    letGo(h);
-                }
-            }
-        }
-
-        void callBackAll(int bits) {
-            for (int h = 0; h < hawks; h++) {
-                if ((bits >> h & 1) == 1) {
-                    callBack(h);
+                    perch(h, manner);
                 }
             }
         }
@@ -1026,7 +1019,7 @@ public final class HawkAsks {
 
         private Castle flightOf(Castle now, int set, int n) {
             then.takeFrom(now);
-            then.letGoAll(set);
+            then.perchAll(set, FLOWN);
             then.passHours(n);
             return then;
         }
@@ -1174,7 +1167,7 @@ public final class HawkAsks {
 
         private boolean isKnownWithout(Castle now, int set, int answer, int n) {
             then.takeFrom(now);
-            then.callBackAll(set);
+            then.perchAll(set, WRIST);
             then.passHours(n);
             return then.isKnown(answer);
         }
