@@ -75,6 +75,8 @@ final class HourEdges {
         e.edge(10, "a peregrine that of greatest WORTH", """
             text c9,9;q1,8,0;q8,9,0;p1; = 1
             fly(0) = {0} | hours(3) = 0 | hawk(0, 1) = 6 | hours(1) = 9 | stand(2) = {1}
+            text c9,9;q7,1,0;q4,1,0;p1; = 1
+            fly(0) = {0} | hawk(0, 4) = 1 | hours(1) = 0 | hawk(0, 1) = 2 | hours(1) = 1 | stand(2) = {1}
             """);
         e.edge(10, "of several the nearest, then the least number", """
             text c9,9;q8,5,0;q3,5,0;p1; = 1
