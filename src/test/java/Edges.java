@@ -1,12 +1,8 @@
 import java.io.IOException;
-import java.lang.reflect.InvocationTargetException;
-import java.lang.reflect.Method;
 import java.nio.file.Files;
 import java.nio.file.Path;
 import java.util.ArrayList;
-import java.util.HashMap;
 import java.util.List;
-import java.util.Map;
 import java.util.regex.Matcher;
 import java.util.regex.Pattern;
 
@@ -24,15 +20,9 @@ import java.util.regex.Pattern;
  */
 final class Edges {
     private static final int MOST_CALLS = 512;
-    private static final Pattern CALL = Pattern.compile("(\\w+)\\(([^)]*)\\)");
-    private static final Map<String, Long> NAMES = Map.ofEntries(
-        Map.entry("NONE", -1000000L), Map.entry("BAD", -1000001L), Map.entry("STATE", -1000002L),
-        Map.entry("FULL", -1000003L), Map.entry("NULL", -1000011L), Map.entry("PLACE", -1000012L),
-        Map.entry("KIND", -1000013L), Map.entry("SIZE", -1000014L), Map.entry("STORE", -1000015L),
-        Map.entry("MIN", (long) Integer.MIN_VALUE), Map.entry("MAX", (long) Integer.MAX_VALUE));
 
     private final Due due = new Due("EdgesTest");
-    private final Map<String, Method> methods = new HashMap<>();
+    private final Calls told = new Calls();
     private final Document document = new Document();
     private String edge;
     private boolean withRefused;
@@ -41,9 +31,6 @@ final class Edges {
     private int calls;
 
     Edges() throws IOException {
-        for (Method method : HawkAsks.class.getDeclaredMethods()) {
-            methods.put(method.getName(), method);
-        }
     }
 
     /** A test of its own for some words of the document, told for a promise. */
@@ -137,42 +124,17 @@ final class Edges {
             call(call);
             return;
         }
-        long want = number(reply);
-        boolean refused = want <= HawkAsks.BAD && want >= NAMES.get("STORE");
+        long want = Calls.number(reply);
+        boolean refused = Calls.isRefusal(want);
         refusedAny |= refused;
         if (withRefused || !refused && !call.equals("status()")) {
             due.is(edge + call, call(call), want);
         }
     }
 
-    private static long number(String text) {
-        if (!text.startsWith("{")) {
-            return NAMES.containsKey(text) ? NAMES.get(text) : Long.parseLong(text);
-        }
-        long bits = 0;
-        for (String bit : text.replaceAll("[{}]", " ").trim().split(" +")) {
-            bits |= bit.isEmpty() ? 0 : 1L << Integer.parseInt(bit);
-        }
-        return bits;
-    }
-
     private long call(String text) {
-        Matcher m = CALL.matcher(text);
-        if (!m.matches() || !methods.containsKey(m.group(1))) {
-            throw new IllegalArgumentException("no call: " + text);
-        }
-        List<Object> arguments = new ArrayList<>();
-        for (String argument : m.group(2).split(",")) {
-            if (!argument.isBlank()) {
-                arguments.add((int) number(argument.trim()));
-            }
-        }
         calls++;
-        try {
-            return ((Number) methods.get(m.group(1)).invoke(x, arguments.toArray())).longValue();
-        } catch (IllegalAccessException | InvocationTargetException e) {
-            throw new IllegalStateException(edge + text, e);
-        }
+        return told.call(x, text);
     }
 
     /** All that can be seen at the end of a run; the rows are dropped for it. */

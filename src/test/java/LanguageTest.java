@@ -1,9 +1,13 @@
 import java.io.IOException;
+import java.lang.reflect.Field;
+import java.lang.reflect.Modifier;
 import java.nio.file.Files;
 import java.nio.file.Path;
 import java.util.ArrayList;
 import java.util.List;
+import java.util.Map;
 import java.util.Set;
+import java.util.TreeMap;
 import java.util.TreeSet;
 import java.util.regex.Matcher;
 import java.util.regex.Pattern;
@@ -19,6 +23,11 @@ public final class LanguageTest {
         String code = text.replaceAll("(?s)/\\*.*?\\*/", "").replaceAll("//[^\n]*", "");
         forbidden(code);
         methods(code.split("\n"));
+        depth(code.split("\n"));
+        fields(HawkAsks.class);
+        for (Class<?> inside : HawkAsks.class.getDeclaredClasses()) {
+            fields(inside);
+        }
         objects(code.split("\n"));
         due.end();
     }
@@ -46,22 +55,85 @@ public final class LanguageTest {
         List<String> hidden = new ArrayList<>();
         for (int i = 0; i < lines.length; i++) {
             Matcher m = METHOD.matcher(lines[i]);
-            if (!m.matches() || m.group(2).equals("new") || m.group(2).equals("else")) {
+            if (!isMethod(m)) {
                 continue;
             }
             (m.group(1).contains("public") ? open : hidden).add(m.group(3));
             due.is("parameters of " + m.group(3), m.group(4).split(",").length <= 7 ? 1 : 0, 1);
-            String end = lines[i].replaceAll("\\S.*", "") + "}";
-            int last = i;
-            while (last < lines.length - 1 && !lines[last].equals(end)) {
-                last++;
-            }
-            due.is("lines of " + m.group(3), last - i <= 60 ? 1 : 0, 1);
+            due.is("lines of " + m.group(3), lastLine(lines, i) - i <= 60 ? 1 : 0, 1);
         }
         due.is("public methods", open.size(), 38);
+        due.is("every method is seen in the text", open.size() + hidden.size(), declared());
         for (String name : hidden) {
             due.is("a hidden method has a public one's name: " + name, open.contains(name) ? 1 : 0, 0);
         }
+    }
+
+    private static int declared() {
+        int number = HawkAsks.class.getDeclaredMethods().length;
+        for (Class<?> inside : HawkAsks.class.getDeclaredClasses()) {
+            number += inside.getDeclaredMethods().length;
+        }
+        return number;
+    }
+
+    private static boolean isMethod(Matcher m) {
+        // "else if (..) {" and a constructor, which has no type, look alike but are none.
+        return m.matches() && !Set.of("new", "else", "public", "private").contains(m.group(2));
+    }
+
+    private static int lastLine(String[] lines, int first) {
+        String end = lines[first].replaceAll("\\S.*", "") + "}";
+        int last = first;
+        while (last < lines.length - 1 && !lines[last].equals(end)) {
+            last++;
+        }
+        return last;
+    }
+
+    /** Rule 11: calls go at most eight deep. Methods of one name are taken as one, which makes no path shorter. */
+    private static void depth(String[] lines) {
+        Map<String, Set<String>> calls = new TreeMap<>();
+        for (int i = 0; i < lines.length; i++) {
+            Matcher m = METHOD.matcher(lines[i]);
+            if (!isMethod(m)) {
+                continue;
+            }
+            Set<String> names = calls.computeIfAbsent(m.group(3), any -> new TreeSet<>());
+            for (int k = i + 1; k < lastLine(lines, i); k++) {
+                Matcher call = Pattern.compile("\\b(\\w+)\\(").matcher(lines[k]);
+                while (call.find()) {
+                    names.add(call.group(1));
+                }
+            }
+        }
+        due.is("calls are seen", deepest("stand", calls, 0), 3);
+        for (String name : calls.keySet()) {
+            int deep = deepest(name, calls, 0);
+            due.is("calls of " + name + " go " + deep + " deep", deep <= 8 ? 1 : 0, 1);
+        }
+    }
+
+    private static int deepest(String name, Map<String, Set<String>> calls, int above) {
+        int most = 0;
+        for (String called : calls.get(name)) {
+            // A method that calls itself is recursion; a ring of several would be found here as too deep.
+            if (calls.containsKey(called) && !called.equals(name) && above < 20) {
+                most = Math.max(most, deepest(called, calls, above + 1));
+            }
+        }
+        return most + 1;
+    }
+
+    /** Rules 5 and 11: static fields are final, and there are not many others. */
+    private static void fields(Class<?> one) {
+        int own = 0;
+        for (Field f : one.getDeclaredFields()) {
+            boolean isStatic = Modifier.isStatic(f.getModifiers());
+            own += isStatic ? 0 : 1;
+            due.is(f + " is final", isStatic && !Modifier.isFinal(f.getModifiers()) ? 1 : 0, 0);
+        }
+        due.is("fields of " + one + ": " + own, own <= 20 ? 1 : 0, 1);
     }
 
     /** All objects are made with the object that holds them: no call makes one. */

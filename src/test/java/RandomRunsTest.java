@@ -16,8 +16,11 @@ public final class RandomRunsTest {
         this.random = new Random(run);
     }
 
+    /** Other runs than those of every day: their first seed and how many. */
     public static void main(String[] args) {
-        for (int run = 0; run < RUNS; run++) {
+        int first = args.length > 1 ? Integer.parseInt(args[0]) : 0;
+        int runs = args.length > 1 ? Integer.parseInt(args[1]) : RUNS;
+        for (int run = first; run < first + runs; run++) {
             new RandomRunsTest(run).calls();
         }
         due.end();
@@ -81,16 +84,16 @@ public final class RandomRunsTest {
         return b.toString();
     }
 
-    /** A number in a range, now and then one beyond it. */
+    /** A number in a range, now and then one beyond it, or the least or greatest there is. */
     private int some(int least, int most) {
-        int odd = random.nextInt(60);
-        if (odd == 0) {
-            return random.nextInt();
+        switch (random.nextInt(100)) {
+            case 0: return random.nextInt();
+            case 1: return least - 1;
+            case 2: return most + 1;
+            case 3: return Integer.MIN_VALUE + random.nextInt(2);
+            case 4: return Integer.MAX_VALUE - random.nextInt(2);
+            default: return least + random.nextInt(most - least + 1);
         }
-        if (odd == 1) {
-            return least - 1;
-        }
-        return odd == 2 ? most + 1 : least + random.nextInt(most - least + 1);
     }
 
     private int hawk() {
